@@ -270,9 +270,9 @@ public final class BroadcastPlant {
 
     private void runFrame() {
         int f = now;
-        for (Playout playout : playouts) playout.begin(f);
-        if (f % 4 == 0) stream.changeService();
-        for (int c = 0; c < CHANNELS; c++) makers[c].begin(f, playouts[c], clips);
+        for (Playout playout : playouts) playout.beginFrame(f);
+        if (f % 4 == 0) stream.changeService(f);
+        for (int c = 0; c < CHANNELS; c++) makers[c].beginFrame(f, playouts[c], clips);
         Units.share(makers, shared);
         for (int c = 0; c < CHANNELS; c++) makers[c].make(f, playouts[c]);
         for (int k = 0; k < packets; k++) {
@@ -327,8 +327,10 @@ public final class BroadcastPlant {
         }
 
         static void putFour(byte[] bytes, int at, int x) {
-            putTwo(bytes, at, x >>> 16);
-            putTwo(bytes, at + 2, x);
+            bytes[at] = (byte) (x >> 24);
+            bytes[at + 1] = (byte) (x >> 16);
+            bytes[at + 2] = (byte) (x >> 8);
+            bytes[at + 3] = (byte) x;
         }
 
         static int one(byte[] bytes, int at) {
@@ -340,7 +342,8 @@ public final class BroadcastPlant {
         }
 
         static int four(byte[] bytes, int at) {
-            return two(bytes, at) << 16 | two(bytes, at + 2);
+            int high = (bytes[at] & 255) << 8 | bytes[at + 1] & 255;
+            return high << 16 | (bytes[at + 2] & 255) << 8 | bytes[at + 3] & 255;
         }
     }
 
@@ -473,7 +476,7 @@ public final class BroadcastPlant {
             return read(on, LENGTH);
         }
 
-        void begin(int f) {
+        void beginFrame(int f) {
             int fixed = firstPlanned(true);
             if (fixed != NONE && read(fixed, AT) == f) {
                 finish(CUT);
@@ -632,7 +635,7 @@ public final class BroadcastPlant {
             held = 0;
         }
 
-        void begin(int f, Playout playout, Clips clips) {
+        void beginFrame(int f, Playout playout, Clips clips) {
             expire(f);
             made[f * COLUMNS + LAST] = NONE;
             if (!serving) return;
@@ -792,10 +795,10 @@ public final class BroadcastPlant {
             Arrays.fill(counters, 15);
         }
 
-        void changeService() {
+        void changeService(int f) {
             boolean changed = false;
             for (Units units : makers) {
-                if (units.changeService(count / Math.max(1, packets))) changed = true;
+                if (units.changeService(f)) changed = true;
             }
             if (changed) version = version + 1 & 31;
         }
@@ -842,7 +845,8 @@ public final class BroadcastPlant {
         private void makeList(int serving) {
             putHead(0, true, HAS_PAYLOAD, nextCounter(0, true));
             int list = at + 5;
-            Bytes.putFour(kept, at + 4, 176);
+            kept[at + 4] = 0;
+            Bytes.putTwo(kept, list, 176);
             kept[list + 2] = (byte) (9 + 4 * serving);
             Bytes.putTwo(kept, list + 3, 1);
             kept[list + 5] = (byte) (193 + 2 * version);
@@ -1135,7 +1139,9 @@ public final class BroadcastPlant {
             } else if (!receiver.isCollecting()) {
                 return;
             }
-            if (!receiver.collect(bytes, payload, at + PACKET - payload, over)) fault(8);
+            boolean right = receiver.collect(bytes, payload, at + PACKET - payload);
+            if (right && receiver.isWhole()) right = receiver.decode(over);
+            if (!right) fault(8);
         }
 
         private void lookAtClock(Receiver receiver) {
@@ -1224,30 +1230,40 @@ public final class BroadcastPlant {
             if (newPid == pid) return;
             pid = newPid;
             clockAt = NONE;
-            drop();
+            count = 0;
         }
 
-        /** Takes some bytes more; false if what is collected is wrong. */
-        boolean collect(byte[] from, int at, int size, int over) {
-            if (size < 0 || count + size > bytes.length) return false;
-            System.arraycopy(from, at, bytes, count, size);
-            count += size;
-            if (count < 6) return true;
+        /** Takes some bytes more; false if these can be no unit's, and then nothing is collected. */
+        boolean collect(byte[] from, int at, int size) {
+            boolean right = size >= 0 && count + size <= bytes.length;
+            if (right) {
+                System.arraycopy(from, at, bytes, count, size);
+                count += size;
+                right = count < 6 || isBeginningRight();
+            }
+            if (!right) count = 0;
+            return right;
+        }
+
+        private boolean isBeginningRight() {
             int rest = Bytes.two(bytes, 4);
-            boolean right = Bytes.four(bytes, 0) == 480 && rest >= 24 && rest <= 3008 && count <= 6 + rest;
-            if (right && count < 6 + rest) return true;
-            int whole = count;
-            drop();
-            return right && decode(whole, over);
+            return Bytes.four(bytes, 0) == 480 && rest >= 24 && rest <= 3008 && count <= 6 + rest;
         }
 
-        private boolean decode(int whole, int over) {
+        boolean isWhole() {
+            return count >= 6 && count == 6 + Bytes.two(bytes, 4);
+        }
+
+        /** Ends the collecting of a whole unit; false if that is not right. */
+        boolean decode(int over) {
+            int end = count;
+            count = 0;
             if (Bytes.two(bytes, 6) != (128 << 8 | 128) || bytes[8] != 5) return false;
             if ((bytes[9] & 241) != 33 || (bytes[11] & 1) == 0 || (bytes[13] & 1) == 0) return false;
             long since = Math.floorMod(readStamp() - begin, STAMPS);
             long frame = since / TICKS - DELAY;
             if (since % TICKS != 0 || frame < over || frame >= FRAMES || frame <= lastRight) return false;
-            if (Bytes.four(bytes, 14) != Bytes.check(bytes, 18, whole)) return false;
+            if (Bytes.four(bytes, 14) != Bytes.check(bytes, 18, end)) return false;
             if (Bytes.two(bytes, 18) != frame || Bytes.one(bytes, 23) > 2 || Bytes.one(bytes, 20) > 16) return false;
             lastRight = (int) frame;
             if (bytes[23] > 0 || lastDecoded == lastRight - 1) show(lastRight);
