@@ -41,7 +41,7 @@ final class Model {
         List<Given> given = new ArrayList<>();
         int least = 100, greatest = 1500, weight = 10, buffer = 8000;
         boolean told = true, in = true;
-        Map<Integer, Unit> units = new TreeMap<>();
+        TreeMap<Integer, Unit> units = new TreeMap<>();
         int tablePid = NONE, pid = NONE, clockAt = NONE;
         List<Integer> collected = null;
         int lastRight = NONE, lastDecoded = -100;
@@ -276,6 +276,7 @@ final class Model {
     // ---- the closing
 
     static List<Integer> closing(int h, List<Integer> lengths) {
+        if (h > 12000) return null;
         for (int pieces = 1; pieces <= 12; pieces++) {
             List<Integer> row = rowOf(h, pieces, lengths, new HashSet<>());
             if (row != null) return row;
@@ -507,7 +508,7 @@ final class Model {
     }
 
     Unit firstOpen(Channel c) {
-        for (Unit u : c.units.values()) if (u.state == 1) return u;
+        for (Unit u : c.units.tailMap(now - 8).values()) if (u.state == 1) return u;
         return null;
     }
 
@@ -518,7 +519,7 @@ final class Model {
 
     int roomOf(Channel c, int f) {
         int sum = 0;
-        for (Unit u : c.units.values()) if (u.counts && in(u.frame, f - 7, f)) sum += u.sent;
+        for (Unit u : c.units.tailMap(f - 7).values()) if (u.counts && in(u.frame, f - 7, f)) sum += u.sent;
         return sum;
     }
 

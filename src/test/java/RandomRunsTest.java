@@ -46,7 +46,7 @@ public final class RandomRunsTest {
     }
 
     public static void main(String[] args) {
-        int runs = args.length > 0 ? Integer.parseInt(args[0]) : 150;
+        int runs = args.length > 0 ? Integer.parseInt(args[0]) : 120;
         int first = args.length > 1 ? Integer.parseInt(args[1]) : 1;
         for (int seed = first; seed < first + runs && wrong == 0; seed++) new RandomRunsTest(seed).run();
         System.out.println(runs + " random runs from seed " + first + ", " + wrong + " wrong answers; seen " + new java.util.TreeMap<>(seen));
@@ -124,6 +124,9 @@ public final class RandomRunsTest {
         for (int c = 0; c < 3 && tight; c++) {
             int least = upTo(16, 60);
             calls.add(new Call("set", c, least, upTo(least, 400), upTo(1, 100)));
+        }
+        for (int i = random.nextInt(25); i > 0; i--) {
+            calls.add(new Call("event", upTo(0, 2), new int[] {0, 0, 2, 3}[upTo(0, 3)], 0, 0, upTo(1, 20)));
         }
         int now = 0;
         int end = random.nextInt(40) == 0 ? 3000 : upTo(20, 220);
