@@ -58,6 +58,7 @@ public final class PromisesTest {
         sentWithoutRoom();
         stored();
         shown();
+        shownOfAnySize();
         region();
         regionEnds();
         alarm();
@@ -132,6 +133,19 @@ public final class PromisesTest {
         x.total(0);
         x.tick(1);
         dueBytes("1: begin is 2^33 - 2, clock", x, 4, 6, 0, 0, 2, 40, 254, 207);
+        x.tick(20);
+        due("1: stamps and clocks go over 2^33", x.faults(0), 0);
+        due("1: and are shown", x.shown(1, 5, 0), 1);
+        x = new BroadcastPlant(13, 0xAAAAAAAA);
+        x.total(0);
+        x.tick(1);
+        dueBytes("1: a clock with high bits", x, 4, 6, 170, 170, 172, 211, 254, 207);
+        dueBytes("1: a stamp with high bits", x, 4, 188 - 114, 0, 0, 1, 224, 0, 108, 128, 128, 5, 43, 85, 87, 139, 169);
+        x.tick(20);
+        due("1: high bits come", x.faults(0), 0);
+        x = new BroadcastPlant(13, -1);
+        x.total(0);
+        x.tick(1);
         dueBytes("1: begin is 2^33 - 2, stamp", x, 4, 188 - 114, 0, 0, 1, 224, 0, 108, 128, 128, 5, 33, 0, 1, 224, 253);
         x = new BroadcastPlant(13, 0);
         x.total(0);
@@ -351,7 +365,7 @@ public final class PromisesTest {
         x.event(1, FOLLOW, 0, 0, 2);
         due("9: none is on", x.overrun(0, 1), BAD);
         x.tick(1);
-        int[][] bad = {{-1, 1}, {3, 1}, {0, 0}, {0, 1001}, {0, LOW}, {0, HIGH}, {2, 1}};
+        int[][] bad = {{-1, 1}, {3, 1}, {0, 0}, {1, 1001}, {0, LOW}, {0, HIGH}, {2, 1}};
         for (int[] b : bad) due("9: " + Arrays.toString(b), x.overrun(b[0], b[1]), BAD);
         due("9: one more", x.overrun(0, 1), 1001);
         due("9: above 2000", x.overrun(0, 1000), BAD);
@@ -454,6 +468,21 @@ public final class PromisesTest {
         x.tick(1);
         int[] key = {65, 108, 217};
         for (int c = 0; c < 3; c++) due("11: values 3, 5, 10", x.unit(c, 4, 1), key[c]);
+        x = new BroadcastPlant(12, 0);
+        for (int c = 0; c < 3; c++) x.set(c, 16, 3000, 1);
+        x.tick(11);
+        x.fill(x.clip(50, 1));
+        x.total(210);
+        x.tick(2);
+        for (int c = 0; c < 3; c++) due("11: like ones", x.unit(c, 11, 1), 70);
+        due("11: a row of fill began", x.unit(0, 11, 2), 2);
+        x.service(2, false);
+        x.tick(4);
+        x.service(2, true);
+        x.tick(4);
+        int[] one = {42, 42, 126};
+        for (int c = 0; c < 3; c++) due("11: a key of 1 counts three times", x.unit(c, 20, 1), one[c]);
+        due("11: it is one", x.unit(2, 20, 2), 1);
     }
 
     private static void buffer() {
@@ -615,6 +644,14 @@ public final class PromisesTest {
         x.tick(1);
         due("16: others count as they came", x.faults(6), 2);
         x = small();
+        x.lines(2, 2);
+        x.lose(0, 3);
+        x.lose(2, 0);
+        x.alter(1, 0, 1);
+        x.alter(1, 187, 1);
+        x.tick(1);
+        due("16: from the first byte on", x.faults(1), 2);
+        x = small();
         x.lines(1, 1);
         x.lose(0, 0);
         x.alter(0, 0, 1);
@@ -765,6 +802,13 @@ public final class PromisesTest {
         for (int w = 0; w < 5; w++) due("23: none, " + w, x.unit(0, 12, w), none[w]);
         due("23: a key at 12", x.unit(1, 12, 2), 1);
         due("23: none at 13", x.unit(1, 13, 2), 0);
+        BroadcastPlant y = plain();
+        y.set(0, 1000, 1000, 1);
+        y.buffer(0, 1000);
+        y.tick(1);
+        y.service(0, false);
+        y.tick(4);
+        for (int f = 0; f < 4; f++) due("23: dropped at 4, of frame " + f, y.unit(0, f, 0), 4);
         x.service(0, true);
         x.tick(15);
         due("23: back, at 16", x.unit(0, 16, 2), 1);
@@ -938,6 +982,23 @@ public final class PromisesTest {
         due("26: two blocks have 128: 95, 107 and 119", x.told(7), 3);
     }
 
+    private static void shownOfAnySize() {
+        BroadcastPlant x = new BroadcastPlant(40, 0);
+        x.lines(1, 1);
+        x.set(0, 1000, 3000, 100);
+        x.set(1, 16, 16, 1);
+        x.set(2, 16, 1000, 1);
+        x.buffer(0, 20000);
+        x.total(9000);
+        x.tick(3);
+        int[] sizes = {3000, 16, 1000};
+        for (int c = 0; c < 3; c++) due("26: size", x.unit(c, 0, 1), sizes[c]);
+        x.set(0, 16, 16, 1);
+        x.tick(17);
+        for (int c = 0; c < 3; c++) for (int f = 0; f < 12; f++) due("26: channel " + c + " frame " + f, x.shown(c, f, 0), 1);
+        due("26: no faults", x.faults(0), 0);
+    }
+
     private static void region() {
         BroadcastPlant x = small();
         x.event(0, BREAK, 0, 0, 20);
@@ -999,6 +1060,16 @@ public final class PromisesTest {
         x.alter(4, 187, 1);
         x.tick(40);
         due("27: a key of 1 begins no break", x.region(12, 0), 0);
+        x = small();
+        x.lines(1, 1);
+        x.event(0, BREAK, 0, 0, 1);
+        x.event(0, BREAK, 0, 0, 1);
+        x.tick(7);
+        x.local(1);
+        x.tick(7);
+        due("27: a break of one frame, told in time", x.region(0, 0), 1);
+        due("27: and the next", x.region(1, 0), 1);
+        due("27: and no more", x.region(2, 0), 0);
         x = small();
         x.lines(1, 1);
         x.local(1);
@@ -1183,6 +1254,8 @@ public final class PromisesTest {
         for (int i : header) dueFaults("29: byte " + i, new int[][] {{24, at + i, 1}}, 0, 0, 0, 0, 0, 0, 0, 1);
         dueFaults("29: fewer bytes", new int[][] {{24, at + 5, 1}}, 0, 0, 0, 0, 0, 0, 1, 0);
         dueFaults("29: more bytes", new int[][] {{24, at + 5, 4}}, 0, 0, 0, 0, 0, 0, 0, 1);
+        dueFaults("29: a byte more than told", new int[][] {{24, at + 5, 108 ^ 107}}, 0, 0, 0, 0, 0, 0, 0, 1);
+        dueFaults("29: a byte fewer than told", new int[][] {{24, at + 5, 108 ^ 109}}, 0, 0, 0, 0, 0, 0, 1, 0);
         dueFaults("29: below 24", new int[][] {{24, at + 5, 108 ^ 23}}, 0, 0, 0, 0, 0, 0, 0, 1);
         dueFaults("29: above 3008", new int[][] {{24, at + 4, 12}}, 0, 0, 0, 0, 0, 0, 0, 1);
         dueFaults("29: bits of 241", new int[][] {{24, at + 9, 128}}, 0, 0, 0, 0, 0, 0, 0, 1);

@@ -46,7 +46,7 @@ public final class RandomRunsTest {
     }
 
     public static void main(String[] args) {
-        int runs = args.length > 0 ? Integer.parseInt(args[0]) : 120;
+        int runs = args.length > 0 ? Integer.parseInt(args[0]) : 60;
         int first = args.length > 1 ? Integer.parseInt(args[1]) : 1;
         for (int seed = first; seed < first + runs && wrong == 0; seed++) new RandomRunsTest(seed).run();
         System.out.println(runs + " random runs from seed " + first + ", " + wrong + " wrong answers; seen " + new java.util.TreeMap<>(seen));
