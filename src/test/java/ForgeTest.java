@@ -20,6 +20,7 @@ public final class ForgeTest {
         beginnings();
         pieces();
         lists();
+        listsAtTheEnd();
         listsOfSeveral();
         shadowedPid();
         tables();
@@ -267,6 +268,21 @@ public final class ForgeTest {
         dueFaults("below 9", withList(checked(0, 176, 5, 0)), 0, 0, 1, 0, 0, 1, 0, 0);
         dueFaults("another kind", withList(checked(2, 176, 9, 0, 1, 193, 0, 0)), 0, 0, 1, 0, 0, 1, 0, 0);
         dueFaults("the four highest bits do not count", withList(checked(0, 0, 9, 9, 9, 9, 9, 9)), 0, 0, 4, 0, 0, 0, 0, 0);
+    }
+
+    /** The last packet of the largest block, where nothing stands behind it. */
+    private static void listsAtTheEnd() {
+        int[] lengths = {9, 180, 181, 4093, 4095};
+        int[] faults = {0, 1, 1, 1, 1};
+        for (int i = 0; i < lengths.length; i++) {
+            BroadcastPlant x = new BroadcastPlant(12, 0);
+            x.total(0);
+            x.lines(8, 8);
+            List<Integer> list = checked(0, 176 + lengths[i] / 256, lengths[i] % 256, 0, 1, 193, 0, 0);
+            forge(x, 63, LIST, true, 2, list);
+            x.tick(6);
+            due("a length of " + lengths[i], x.faults(6), faults[i]);
+        }
     }
 
     private static void listsOfSeveral() {
