@@ -1,30 +1,7 @@
 import java.util.Arrays;
 
 /** The document's promises one by one, with answers worked out by hand from its words. */
-public final class PromisesTest {
-    private static final int NONE = -1, BAD = -2, FULL = -3;
-    private static final int LOW = Integer.MIN_VALUE, HIGH = Integer.MAX_VALUE;
-    private static final int FOLLOW = 0, FIXED = 1, MANUAL = 2, BREAK = 3;
-
-    private static int wrong, asked;
-
-    private static void due(String what, int got, int want) {
-        asked++;
-        if (got == want) return;
-        wrong++;
-        System.out.println(what + " answered " + got + ", due is " + want);
-    }
-
-    /** The packet n, from byte i on, is to have these bytes. */
-    private static void dueBytes(String what, BroadcastPlant x, int n, int i, int... want) {
-        int[] got = new int[want.length];
-        for (int k = 0; k < want.length; k++) got[k] = x.sent(n, i + k);
-        asked++;
-        if (Arrays.equals(got, want)) return;
-        wrong++;
-        System.out.println(what + ": packet " + n + " from byte " + i + " has " + Arrays.toString(got) + ", due is " + Arrays.toString(want));
-    }
-
+public final class PromisesTest extends Answers {
     public static void main(String[] args) {
         newObject();
         beginWithoutSign();
@@ -68,29 +45,7 @@ public final class PromisesTest {
         faultsOfTables();
         faultsOfUnits();
         told();
-        System.out.println(asked + " answers looked at, " + wrong + " wrong");
-        if (wrong != 0) System.exit(1);
-    }
-
-    /** Packets of 12 a frame, from clock 0 on, with a clip of 100 frames and effort 1. */
-    private static BroadcastPlant plain() {
-        BroadcastPlant x = new BroadcastPlant(12, 0);
-        x.clip(100, 1);
-        return x;
-    }
-
-    /** All units have 100 bytes, and so each fits into its clock packet. */
-    private static BroadcastPlant small() {
-        BroadcastPlant x = plain();
-        x.total(0);
-        return x;
-    }
-
-    /** Blocks of one packet: what comes is judged at once, and nothing is mended when both parities are lost. */
-    private static void loseForGood(BroadcastPlant x, int n) {
-        x.lose(0, n);
-        x.lose(1, n);
-        x.lose(2, n);
+        finish();
     }
 
     // ---- 1
@@ -1136,23 +1091,12 @@ public final class PromisesTest {
 
     // ---- 29, 30
 
-    private static int[] faultsOf(BroadcastPlant x) {
-        int[] counts = new int[9];
-        for (int i = 0; i < 9; i++) counts[i] = x.faults(i);
-        return counts;
-    }
-
     /** Runs 8 frames with these alterations (packet, byte, mask); the faults 1 .. 8 are to be so many. */
-    private static void dueFaults(String what, int[][] alterations, int... want) {
-        BroadcastPlant x = small();
-        x.lines(1, 1);
+    private static void dueAltered(String what, int[][] alterations, int... want) {
+        BroadcastPlant x = prompt();
         for (int[] a : alterations) x.alter(a[0], a[1], a[2]);
         x.tick(8);
-        int[] got = Arrays.copyOfRange(faultsOf(x), 1, 9);
-        asked++;
-        if (Arrays.equals(got, want)) return;
-        wrong++;
-        System.out.println(what + ": faults are " + Arrays.toString(got) + ", due is " + Arrays.toString(want));
+        dueFaults(what, x, want);
     }
 
     private static void faultsOfHeads() {
@@ -1160,30 +1104,30 @@ public final class PromisesTest {
         int[] bad = {-1, 9, LOW, HIGH};
         for (int b : bad) due("29: " + b, x.faults(b), BAD);
         int n = 11;
-        dueFaults("29: none", new int[][] {}, 0, 0, 0, 0, 0, 0, 0, 0);
-        dueFaults("29: the first byte", new int[][] {{n, 0, 1}}, 1, 0, 0, 0, 0, 0, 0, 0);
-        dueFaults("29: 128 in the second", new int[][] {{n, 1, 128}}, 1, 0, 0, 0, 0, 0, 0, 0);
-        dueFaults("29: both, and nothing more", new int[][] {{n, 0, 1}, {n, 1, 128}, {n, 3, 16}}, 1, 0, 0, 0, 0, 0, 0, 0);
-        dueFaults("29: neither payload nor field", new int[][] {{n, 3, 16}}, 0, 1, 0, 0, 0, 0, 0, 0);
-        dueFaults("29: 192 is not looked at", new int[][] {{n, 3, 192}, {4, 3, 64}, {12, 3, 128}}, 0, 0, 0, 0, 0, 0, 0, 0);
-        dueFaults("29: a field of 183 with a payload", new int[][] {{n, 3, 32}, {n, 4, 255 ^ 183}}, 0, 1, 0, 0, 0, 0, 0, 0);
-        dueFaults("29: a field of 182 with a payload", new int[][] {{n, 3, 32}, {n, 4, 255 ^ 182}}, 0, 0, 0, 0, 0, 0, 0, 0);
-        dueFaults("29: a field of 184", new int[][] {{n, 3, 48}, {n, 4, 255 ^ 184}}, 0, 1, 0, 0, 0, 0, 0, 0);
-        dueFaults("29: a field of 183", new int[][] {{n, 3, 48}, {n, 4, 255 ^ 183}}, 0, 0, 0, 0, 0, 0, 0, 0);
-        dueFaults("29: no place for a clock", new int[][] {{n, 3, 32}, {n, 4, 255 ^ 6}}, 0, 1, 0, 0, 0, 0, 0, 0);
-        dueFaults("29: place for a clock", new int[][] {{n, 3, 32}, {n, 4, 255 ^ 7}}, 0, 0, 0, 0, 0, 0, 0, 0);
-        dueFaults("29: no clock", new int[][] {{n, 3, 32}, {n, 4, 255 ^ 6}, {n, 5, 16}}, 0, 0, 0, 0, 0, 0, 0, 0);
-        dueFaults("29: no flags", new int[][] {{n, 3, 32}, {n, 4, 255}}, 0, 0, 0, 0, 0, 0, 0, 0);
+        dueAltered("29: none", new int[][] {}, 0, 0, 0, 0, 0, 0, 0, 0);
+        dueAltered("29: the first byte", new int[][] {{n, 0, 1}}, 1, 0, 0, 0, 0, 0, 0, 0);
+        dueAltered("29: 128 in the second", new int[][] {{n, 1, 128}}, 1, 0, 0, 0, 0, 0, 0, 0);
+        dueAltered("29: both, and nothing more", new int[][] {{n, 0, 1}, {n, 1, 128}, {n, 3, 16}}, 1, 0, 0, 0, 0, 0, 0, 0);
+        dueAltered("29: neither payload nor field", new int[][] {{n, 3, 16}}, 0, 1, 0, 0, 0, 0, 0, 0);
+        dueAltered("29: 192 is not looked at", new int[][] {{n, 3, 192}, {4, 3, 64}, {12, 3, 128}}, 0, 0, 0, 0, 0, 0, 0, 0);
+        dueAltered("29: a field of 183 with a payload", new int[][] {{n, 3, 32}, {n, 4, 255 ^ 183}}, 0, 1, 0, 0, 0, 0, 0, 0);
+        dueAltered("29: a field of 182 with a payload", new int[][] {{n, 3, 32}, {n, 4, 255 ^ 182}}, 0, 0, 0, 0, 0, 0, 0, 0);
+        dueAltered("29: a field of 184", new int[][] {{n, 3, 48}, {n, 4, 255 ^ 184}}, 0, 1, 0, 0, 0, 0, 0, 0);
+        dueAltered("29: a field of 183", new int[][] {{n, 3, 48}, {n, 4, 255 ^ 183}}, 0, 0, 0, 0, 0, 0, 0, 0);
+        dueAltered("29: no place for a clock", new int[][] {{n, 3, 32}, {n, 4, 255 ^ 6}}, 0, 1, 0, 0, 0, 0, 0, 0);
+        dueAltered("29: place for a clock", new int[][] {{n, 3, 32}, {n, 4, 255 ^ 7}}, 0, 0, 0, 0, 0, 0, 0, 0);
+        dueAltered("29: no clock", new int[][] {{n, 3, 32}, {n, 4, 255 ^ 6}, {n, 5, 16}}, 0, 0, 0, 0, 0, 0, 0, 0);
+        dueAltered("29: no flags", new int[][] {{n, 3, 32}, {n, 4, 255}}, 0, 0, 0, 0, 0, 0, 0, 0);
     }
 
     private static void faultsOfCounters() {
-        dueFaults("29: a counter, and the next", new int[][] {{24, 3, 1}}, 0, 0, 2, 0, 0, 0, 0, 0);
-        dueFaults("29: the first one's, and the next", new int[][] {{4, 3, 2}}, 0, 0, 1, 0, 0, 0, 0, 0);
-        dueFaults("29: of the list", new int[][] {{0, 3, 2}}, 0, 0, 1, 0, 0, 0, 0, 0);
-        dueFaults("29: of a table", new int[][] {{50, 3, 2}}, 0, 0, 1, 0, 0, 0, 0, 0);
-        dueFaults("29: of no one", new int[][] {{11, 3, 2}}, 0, 0, 0, 0, 0, 0, 0, 0);
-        dueFaults("29: one more, without a payload", new int[][] {{24, 3, 16}}, 0, 0, 1, 0, 0, 0, 0, 0);
-        dueFaults("29: the same, without a payload", new int[][] {{24, 3, 16 ^ 2 ^ 1}}, 0, 0, 1, 0, 0, 0, 0, 0);
+        dueAltered("29: a counter, and the next", new int[][] {{24, 3, 1}}, 0, 0, 2, 0, 0, 0, 0, 0);
+        dueAltered("29: the first one's, and the next", new int[][] {{4, 3, 2}}, 0, 0, 1, 0, 0, 0, 0, 0);
+        dueAltered("29: of the list", new int[][] {{0, 3, 2}}, 0, 0, 1, 0, 0, 0, 0, 0);
+        dueAltered("29: of a table", new int[][] {{50, 3, 2}}, 0, 0, 1, 0, 0, 0, 0, 0);
+        dueAltered("29: of no one", new int[][] {{11, 3, 2}}, 0, 0, 0, 0, 0, 0, 0, 0);
+        dueAltered("29: one more, without a payload", new int[][] {{24, 3, 16}}, 0, 0, 1, 0, 0, 0, 0, 0);
+        dueAltered("29: the same, without a payload", new int[][] {{24, 3, 16 ^ 2 ^ 1}}, 0, 0, 1, 0, 0, 0, 0, 0);
         BroadcastPlant x = plain();
         x.lines(1, 1);
         x.set(0, 1000, 1000, 1);
@@ -1198,12 +1142,12 @@ public final class PromisesTest {
     }
 
     private static void faultsOfClocks() {
-        dueFaults("29: a clock's base", new int[][] {{4, 6, 128}}, 0, 0, 0, 1, 0, 0, 0, 0);
-        dueFaults("29: a clock's rest", new int[][] {{4, 11, 1}}, 0, 0, 0, 1, 0, 0, 0, 0);
-        dueFaults("29: a bit of 1", new int[][] {{4, 10, 64}}, 0, 0, 0, 1, 0, 0, 0, 0);
-        dueFaults("29: no clock in three frames", new int[][] {{24, 5, 16}, {36, 5, 16}}, 0, 0, 0, 0, 1, 0, 0, 0);
-        dueFaults("29: just three frames", new int[][] {{36, 5, 16}, {52, 5, 16}}, 0, 0, 0, 0, 0, 0, 0, 0);
-        dueFaults("29: a wrong one is one", new int[][] {{24, 5, 16}, {36, 6, 1}}, 0, 0, 0, 1, 0, 0, 0, 0);
+        dueAltered("29: a clock's base", new int[][] {{4, 6, 128}}, 0, 0, 0, 1, 0, 0, 0, 0);
+        dueAltered("29: a clock's rest", new int[][] {{4, 11, 1}}, 0, 0, 0, 1, 0, 0, 0, 0);
+        dueAltered("29: a bit of 1", new int[][] {{4, 10, 64}}, 0, 0, 0, 1, 0, 0, 0, 0);
+        dueAltered("29: no clock in three frames", new int[][] {{24, 5, 16}, {36, 5, 16}}, 0, 0, 0, 0, 1, 0, 0, 0);
+        dueAltered("29: just three frames", new int[][] {{36, 5, 16}, {52, 5, 16}}, 0, 0, 0, 0, 0, 0, 0, 0);
+        dueAltered("29: a wrong one is one", new int[][] {{24, 5, 16}, {36, 6, 1}}, 0, 0, 0, 1, 0, 0, 0, 0);
         BroadcastPlant x = small();
         x.lines(1, 1);
         x.service(0, false);
@@ -1214,14 +1158,14 @@ public final class PromisesTest {
     }
 
     private static void faultsOfTables() {
-        dueFaults("29: a list's byte", new int[][] {{0, 9, 1}}, 0, 0, 0, 0, 0, 1, 0, 0);
-        dueFaults("29: its check", new int[][] {{48, 28, 1}}, 0, 0, 0, 0, 0, 1, 0, 0);
-        dueFaults("29: without 64", new int[][] {{48, 1, 64}}, 0, 0, 0, 0, 0, 1, 0, 0);
-        dueFaults("29: the byte 0", new int[][] {{48, 4, 1}}, 0, 0, 0, 0, 0, 1, 0, 0);
-        dueFaults("29: a table's kind", new int[][] {{49, 5, 2}}, 0, 0, 0, 0, 0, 1, 0, 0);
-        dueFaults("29: a table's length", new int[][] {{49, 7, 255 ^ 18}}, 0, 0, 0, 0, 0, 1, 0, 0);
-        dueFaults("29: behind its end nothing counts", new int[][] {{48, 29, 255}, {49, 26, 255}}, 0, 0, 0, 0, 0, 0, 0, 0);
-        dueFaults("29: a payload of 3 bytes", new int[][] {{48, 3, 32}, {48, 4, 180}, {48, 5, 0 ^ 1}}, 0, 0, 0, 0, 0, 1, 0, 0);
+        dueAltered("29: a list's byte", new int[][] {{0, 9, 1}}, 0, 0, 0, 0, 0, 1, 0, 0);
+        dueAltered("29: its check", new int[][] {{48, 28, 1}}, 0, 0, 0, 0, 0, 1, 0, 0);
+        dueAltered("29: without 64", new int[][] {{48, 1, 64}}, 0, 0, 0, 0, 0, 1, 0, 0);
+        dueAltered("29: the byte 0", new int[][] {{48, 4, 1}}, 0, 0, 0, 0, 0, 1, 0, 0);
+        dueAltered("29: a table's kind", new int[][] {{49, 5, 2}}, 0, 0, 0, 0, 0, 1, 0, 0);
+        dueAltered("29: a table's length", new int[][] {{49, 7, 255 ^ 18}}, 0, 0, 0, 0, 0, 1, 0, 0);
+        dueAltered("29: behind its end nothing counts", new int[][] {{48, 29, 255}, {49, 26, 255}}, 0, 0, 0, 0, 0, 0, 0, 0);
+        dueAltered("29: a payload of 3 bytes", new int[][] {{48, 3, 32}, {48, 4, 180}, {48, 5, 0 ^ 1}}, 0, 0, 0, 0, 0, 1, 0, 0);
         BroadcastPlant x = small();
         x.lines(1, 1);
         x.alter(0, 9, 1);
@@ -1248,21 +1192,21 @@ public final class PromisesTest {
     }
 
     private static void faultsOfUnits() {
-        dueFaults("29: a byte of a unit", new int[][] {{24, 187, 1}}, 0, 0, 0, 0, 0, 0, 0, 1);
+        dueAltered("29: a byte of a unit", new int[][] {{24, 187, 1}}, 0, 0, 0, 0, 0, 0, 0, 1);
         int at = 188 - 114;
         int[] header = {0, 1, 2, 3, 6, 7, 8};
-        for (int i : header) dueFaults("29: byte " + i, new int[][] {{24, at + i, 1}}, 0, 0, 0, 0, 0, 0, 0, 1);
-        dueFaults("29: fewer bytes", new int[][] {{24, at + 5, 1}}, 0, 0, 0, 0, 0, 0, 1, 0);
-        dueFaults("29: more bytes", new int[][] {{24, at + 5, 4}}, 0, 0, 0, 0, 0, 0, 0, 1);
-        dueFaults("29: a byte more than told", new int[][] {{24, at + 5, 108 ^ 107}}, 0, 0, 0, 0, 0, 0, 0, 1);
-        dueFaults("29: a byte fewer than told", new int[][] {{24, at + 5, 108 ^ 109}}, 0, 0, 0, 0, 0, 0, 1, 0);
-        dueFaults("29: below 24", new int[][] {{24, at + 5, 108 ^ 23}}, 0, 0, 0, 0, 0, 0, 0, 1);
-        dueFaults("29: above 3008", new int[][] {{24, at + 4, 12}}, 0, 0, 0, 0, 0, 0, 0, 1);
-        dueFaults("29: bits of 241", new int[][] {{24, at + 9, 128}}, 0, 0, 0, 0, 0, 0, 0, 1);
-        dueFaults("29: the third is even", new int[][] {{24, at + 11, 1}}, 0, 0, 0, 0, 0, 0, 0, 1);
-        dueFaults("29: the fifth is even", new int[][] {{24, at + 13, 1}}, 0, 0, 0, 0, 0, 0, 0, 1);
-        dueFaults("29: another stamp", new int[][] {{24, at + 13, 2}}, 0, 0, 0, 0, 0, 0, 0, 1);
-        dueFaults("29: without a beginning nothing is collected", new int[][] {{24, 1, 64}}, 0, 0, 0, 0, 0, 0, 0, 0);
+        for (int i : header) dueAltered("29: byte " + i, new int[][] {{24, at + i, 1}}, 0, 0, 0, 0, 0, 0, 0, 1);
+        dueAltered("29: fewer bytes", new int[][] {{24, at + 5, 1}}, 0, 0, 0, 0, 0, 0, 1, 0);
+        dueAltered("29: more bytes", new int[][] {{24, at + 5, 4}}, 0, 0, 0, 0, 0, 0, 0, 1);
+        dueAltered("29: a byte more than told", new int[][] {{24, at + 5, 108 ^ 107}}, 0, 0, 0, 0, 0, 0, 0, 1);
+        dueAltered("29: a byte fewer than told", new int[][] {{24, at + 5, 108 ^ 109}}, 0, 0, 0, 0, 0, 0, 1, 0);
+        dueAltered("29: below 24", new int[][] {{24, at + 5, 108 ^ 23}}, 0, 0, 0, 0, 0, 0, 0, 1);
+        dueAltered("29: above 3008", new int[][] {{24, at + 4, 12}}, 0, 0, 0, 0, 0, 0, 0, 1);
+        dueAltered("29: bits of 241", new int[][] {{24, at + 9, 128}}, 0, 0, 0, 0, 0, 0, 0, 1);
+        dueAltered("29: the third is even", new int[][] {{24, at + 11, 1}}, 0, 0, 0, 0, 0, 0, 0, 1);
+        dueAltered("29: the fifth is even", new int[][] {{24, at + 13, 1}}, 0, 0, 0, 0, 0, 0, 0, 1);
+        dueAltered("29: another stamp", new int[][] {{24, at + 13, 2}}, 0, 0, 0, 0, 0, 0, 0, 1);
+        dueAltered("29: without a beginning nothing is collected", new int[][] {{24, 1, 64}}, 0, 0, 0, 0, 0, 0, 0, 0);
         BroadcastPlant x = plain();
         x.lines(1, 1);
         x.set(0, 1000, 1000, 1);
