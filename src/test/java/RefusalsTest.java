@@ -2,8 +2,9 @@ import java.util.ArrayList;
 import java.util.List;
 
 /**
- * What is refused changes nothing: each refused call is made in the middle of a run, and all that can be asked of that
- * run is compared with the run without it. No object has more than 512 calls: the run is made anew for the next questions.
+ * What is refused changes nothing: each refused call is made in the middle of a run, and what is asked behind it (of every
+ * kind of question, thousands in a short run, hundreds in a long one) is compared with the run without it. No object has
+ * more than 512 calls: the run is made anew for the next questions.
  */
 public final class RefusalsTest extends Answers {
     private static final int MOST_CALLS = 512;
