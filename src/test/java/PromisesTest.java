@@ -45,6 +45,7 @@ public final class PromisesTest extends Answers {
         faultsOfTables();
         faultsOfUnits();
         told();
+        readme();
         finish();
     }
 
@@ -1237,5 +1238,19 @@ public final class PromisesTest extends Answers {
         due("30: all faults", x.faults(0), 2);
         due("30: of 1", x.faults(1), 1);
         due("30: of 2", x.faults(2), 1);
+    }
+
+    /** The example of README.md. */
+    private static void readme() {
+        BroadcastPlant plant = new BroadcastPlant(20, 0);
+        due("README: clip", plant.clip(50, 10), 0);
+        due("README: event", plant.event(0, FOLLOW, 0, 0, 30), 0);
+        due("README: lose", plant.lose(0, 33), 1);
+        due("README: tick", plant.tick(40), 40);
+        due("README: the event has ended", plant.eventOf(0, 0, 0), 2);
+        due("README: frames over", plant.told(7), 33);
+        due("README: the clip that is shown", plant.shown(0, 3, 1), 0);
+        due("README: mended", plant.told(4), 1);
+        due("README: faults", plant.faults(0), 0);
     }
 }
